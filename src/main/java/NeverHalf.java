@@ -1452,17 +1452,26 @@ public final class NeverHalf {
             return k == NONE ? seen : NONE;
         }
 
+        /** Only a greater oven can be cheaper for one that leaves. */
         int leavers(Village in, int o, int set) {
             int gone = 0;
-            for (int p = 0; p < in.ovens; p++) {
-                int noGain = ~cheaperThanIn(in, p, o);
-                int noGainOutside = ~cheaperThanAlone(in, p);
-                for (int i = 0; i < foundCount; i++) {
-                    int other = found[i];
-                    boolean allGain = (other & set & noGain) == 0 && (other & ~set & noGainOutside) == 0;
-                    if (allGain && total[other] == in.sizes[p]) {
-                        gone |= other & set;
-                    }
+            for (int p = 0; p < in.ovens && gone != set; p++) {
+                if (in.sizes[p] > in.sizes[o]) {
+                    gone |= leaversTo(in, p, o, set);
+                }
+            }
+            return gone;
+        }
+
+        private int leaversTo(Village in, int p, int o, int set) {
+            int noGain = ~cheaperThanIn(in, p, o);
+            int noGainOutside = ~cheaperThanAlone(in, p);
+            int gone = 0;
+            for (int i = 0; i < foundCount && gone != set; i++) {
+                int other = found[i];
+                boolean allGain = (other & set & noGain) == 0 && (other & ~set & noGainOutside) == 0;
+                if (allGain && total[other] == in.sizes[p]) {
+                    gone |= other & set;
                 }
             }
             return gone;
@@ -1555,6 +1564,9 @@ public final class NeverHalf {
 
         private void tryWishes(Village in, int f, int set) {
             int count = 1 + Integer.bitCount(set) + table[wishers & ~set & ~(1 << f)];
+            if (count < betterCount) {
+                return;
+            }
             for (int o = 0; o < in.ovens; o++) {
                 int wish = in.sizes[o] - total[set];
                 boolean can = wish >= 1 && wish <= MOST_WISH;

@@ -131,12 +131,16 @@ final class FireTest {
     private static void lastDay() {
         NeverHalf x = Checks.told("family 1;");
         for (int i = 0; i < 33; i++) {
-            CHECKS.due("30 days", x.drawn(7, 30) >= 0 ? 1 : 0, 1);
+            CHECKS.holds("30 days", x.drawn(7, 30) >= 0);
         }
         CHECKS.due("day", 990, x.count(2));
         CHECKS.due("10 days more", -5, x.drawn(7, 10));
-        CHECKS.due("8 days more", 1, x.drawn(7, 8) >= 0 ? 1 : 0);
-        CHECKS.due("the last one", 1, x.day() >= 0 ? 1 : 0);
+        x.image(0);
+        CHECKS.holds("9 days more", x.drawn(7, 9) >= 0);
+        CHECKS.due("no more than 999", -5, x.day());
+        x.restore(0);
+        CHECKS.holds("8 days more", x.drawn(7, 8) >= 0);
+        CHECKS.holds("the last one", x.day() >= 0);
         CHECKS.due("no more", -5, x.day());
         CHECKS.due("no more", -5, x.drawn(7, 1));
         CHECKS.due("day", 999, x.count(2));

@@ -65,6 +65,25 @@ final class ModelTest {
                 continue;
             }
             call(m, arguments(m));
+            if (m.getName().equals("restore") || m.getName().equals("marry") || i == CALLS - 1) {
+                lookAround();
+            }
+        }
+    }
+
+    /** All that can be seen of the village as it stands. */
+    private void lookAround() throws ReflectiveOperationException {
+        for (int what = 0; what < 14; what++) {
+            call("count", what);
+        }
+        for (int f = 0; f < program.count(0); f++) {
+            for (int what = 0; what < 15; what++) {
+                call("family", f, what);
+            }
+            for (int g = 0; g < program.count(0); g++) {
+                call("quarrel", f, g);
+                call("owed", f, g);
+            }
         }
     }
 
@@ -190,6 +209,7 @@ final class ModelTest {
         call("village", bytes.length - (random.nextInt(8) == 0 ? small(bytes.length) : 0));
         call("fault", 0);
         call("fault", 1);
+        lookAround();
         families = Math.max(1, program.count(0));
     }
 

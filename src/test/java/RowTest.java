@@ -97,8 +97,21 @@ final class RowTest {
         x.numbers(0, 0, 2);
         x.image(0);
         int[] counts = new int[14];
+        int[] first = new int[8];
         for (int what = 0; what < 14; what++) {
             counts[what] = x.count(what);
+        }
+        for (int what = 0; what < 8; what++) {
+            first[what] = x.family(0, what);
+        }
+        x.fireWishes(1, 0);
+        x.wish(1, 2);
+        x.fireWishes(0, 2);
+        x.wish(0, 2);
+        x.fireWishes(0, 1);
+        x.lend(1, 0, 3);
+        for (int i = 0; i < 4; i++) {
+            x.day();
         }
         Checks.tell(x, "keep 5;family 9;oven 7;oven 8;oven 9;");
         x.drawn(5, 9);
@@ -108,6 +121,9 @@ final class RowTest {
         CHECKS.due("restore(0)", 0, x.restore(0));
         for (int what = 0; what < 14; what++) {
             CHECKS.due("restored count(" + what + ")", counts[what], x.count(what));
+        }
+        for (int what = 0; what < 8; what++) {
+            CHECKS.due("restored family(0, " + what + ")", first[what], x.family(0, what));
         }
         CHECKS.due("fuel owed", 7, x.family(0, 4));
         CHECKS.due("debt", 8, x.owed(2, 0));

@@ -13,6 +13,7 @@ final class VillageTest {
         ovensAndQuarrels();
         wishes();
         flour();
+        readme();
         CHECKS.finish();
     }
 
@@ -86,6 +87,12 @@ final class VillageTest {
         fault("7;", 2, 0);
         fault("bake 1;", 2, 0);
         fault("flour 1;", 2, 0);
+        fault("az;", 2, 0);
+        fault("family 1;z 1;", 2, 9);
+        fault("family 1;`", 1, 9);
+        fault("family 1;{", 1, 9);
+        fault("family 1/;", 1, 8);
+        fault("family 1:", 1, 8);
         fault("familys 1;", 2, 0);
         fault("Family 1;", 1, 0);
         fault("family 1;\toven 1;", 1, 9);
@@ -103,6 +110,7 @@ final class VillageTest {
         fault("family 1 bread wish 1;", 2, 15);
         fault("family 1 bread 100;", 3, 15);
         fault("family 1 bread 1 2 3 4;", 4, 21);
+        fault("family 1 bread 1 2 3 99;", 4, 21);
         fault("family 1 bread 1 2 3 100;", 3, 21);
         fault("family 1 bread 1 2 3 1000;", 1, 21);
         fault("keep 1;family 1 bread 1 2;", 4, 24);
@@ -153,6 +161,17 @@ final class VillageTest {
         CHECKS.due("no place", -1, x.fault(1));
         CHECKS.due("day is 0", 0, x.count(2));
         CHECKS.due("hunger is gone", 0, x.count(8));
+        NeverHalf y = Checks.told("keep 1;family 3 bread 9 wish 5;family 2;oven 5;quarrel 0 1;");
+        y.fireWishes(0, 1);
+        y.lend(0, 1, 5);
+        y.day();
+        Checks.tell(y, "family 3;family 2;");
+        int[] due = {3, 50, 0, 0, 0, 0, 0, 0};
+        for (int what = 0; what < due.length; what++) {
+            CHECKS.due("nothing of the one ahead: family(0, " + what + ")", due[what], y.family(0, what));
+        }
+        CHECKS.due("no quarrel of the one ahead", 0, y.quarrel(0, 1));
+        CHECKS.due("no debt of the one ahead", 0, y.owed(1, 0));
     }
 
     private static void families() {
@@ -215,5 +234,14 @@ final class VillageTest {
         CHECKS.due("mill(1, -1)", -2, x.mill(1, -1));
         CHECKS.due("mill(0, 999)", 999, x.mill(0, 999));
         CHECKS.due("flour", 999, x.family(0, 1));
+    }
+
+    private static void readme() {
+        NeverHalf x = new NeverHalf();
+        x.feed(0x66616d69, 0x6c792035, 0x20776973, 0x6820353b, 0x6f76656e);
+        x.feed(0x20353b20, 0x20202020, 0x20202020, 0x20202020, 0x20202020);
+        CHECKS.due("README: village(23)", 2, x.village(23));
+        CHECKS.due("README: fireWishes(0, 1)", 20, x.fireWishes(0, 1));
+        CHECKS.due("README: day()", 0, x.day());
     }
 }
