@@ -74,7 +74,7 @@ public final class NeverHalf {
         for (int i = 0; i < ROWS; i++) {
             rows[i] = new Row();
         }
-        reader = new Reader();
+        reader = new Reader(tape);
         bakery = new Bakery();
         sums = new Sums();
         groups = new Groups();
@@ -108,7 +108,7 @@ public final class NeverHalf {
             return BAD_NUMBER;
         }
         tapeLength = 0;
-        reader.read(tape, n, spare);
+        reader.read(n, spare);
         faultKind = reader.faultKind;
         faultPlace = reader.faultPlace;
         if (faultKind != 0) {
@@ -969,18 +969,11 @@ public final class NeverHalf {
     /** Reads a text into a village, up to its first fault. */
     private static final class Reader {
         private static final int END = 0;
-        private static final int NO_TOKEN = 1;
-        private static final int SEMICOLON = 2;
+        private static final int BLANK = 1;
+        private static final int WORD = 2;
         private static final int NUMBER = 3;
-        private static final int OTHER_WORD = 4;
-        private static final int FAMILY = 5;
-        private static final int FLOUR = 6;
-        private static final int BREAD = 7;
-        private static final int WISH = 8;
-        private static final int OVEN = 9;
-        private static final int QUARREL = 10;
-        private static final int KEEP = 11;
-        private static final int FUEL = 12;
+        private static final int SEMICOLON = 4;
+        private static final int NO_TOKEN = 5;
 
         private static final int BEGINS_NOT = 1;
         private static final int STANDS_NOT = 2;
@@ -991,16 +984,19 @@ public final class NeverHalf {
 
         int faultKind;
         int faultPlace;
-        private final byte[] text = new byte[TAPE];
+        private final byte[] text;
         private int length;
         private int token;
         private int value;
         private int place;
         private int behind;
 
-        void read(byte[] tape, int n, Village into) {
-            length = Math.max(0, Math.min(n, Math.min(tape.length, TAPE)));
-            System.arraycopy(tape, 0, text, 0, length);
+        Reader(byte[] tape) {
+            text = tape;
+        }
+
+        void read(int n, Village into) {
+            length = Math.max(0, Math.min(n, text.length));
             faultKind = 0;
             faultPlace = NONE;
             behind = 0;
@@ -1013,25 +1009,19 @@ public final class NeverHalf {
         }
 
         private void readLine(Village into) {
-            switch (token) {
-                case FAMILY:
-                    readFamily(into);
-                    break;
-                case OVEN:
-                    readOven(into);
-                    break;
-                case QUARREL:
-                    readQuarrel(into);
-                    break;
-                case KEEP:
-                    readKeep(into);
-                    break;
-                case FUEL:
-                    advance();
-                    into.fuel = readNumber(0, MOST_FUEL);
-                    break;
-                default:
-                    blame(STANDS_NOT);
+            if (isWord("family")) {
+                readFamily(into);
+            } else if (isWord("oven")) {
+                readOven(into);
+            } else if (isWord("quarrel")) {
+                readQuarrel(into);
+            } else if (isWord("keep")) {
+                readKeep(into);
+            } else if (isWord("fuel")) {
+                advance();
+                into.fuel = readNumber(0, MOST_FUEL);
+            } else {
+                blame(STANDS_NOT);
             }
             if (token == SEMICOLON) {
                 advance();
@@ -1050,15 +1040,15 @@ public final class NeverHalf {
             member.reset();
             advance();
             member.eats = readNumber(0, MOST_EATS);
-            if (token == FLOUR) {
+            if (isWord("flour")) {
                 advance();
                 member.flour = readNumber(0, MOST_FLOUR);
             }
-            if (token == BREAD) {
+            if (isWord("bread")) {
                 advance();
                 readBread(member, into.keep);
             }
-            if (token == WISH) {
+            if (isWord("wish")) {
                 advance();
                 member.wish = readNumber(0, MOST_WISH);
             }
@@ -1133,65 +1123,42 @@ public final class NeverHalf {
             }
         }
 
+        /** A token is of the kind of its first sign, and as long as such signs go on. */
         private void advance() {
             place = behind;
-            while (place < length && isBlank(text[place])) {
+            while (place < length && kindOf(text[place]) == BLANK) {
                 place++;
             }
             behind = place;
             if (place >= length) {
                 token = END;
-            } else if (isLetter(text[place])) {
-                takeWord();
-            } else if (isDigit(text[place])) {
-                takeNumber();
-            } else {
-                behind++;
-                token = text[place] == ';' ? SEMICOLON : NO_TOKEN;
+                return;
             }
-        }
-
-        private void takeWord() {
-            while (behind < length && isLetter(text[behind])) {
-                behind++;
-            }
-            token = wordHere();
-        }
-
-        private void takeNumber() {
-            value = 0;
-            while (behind < length && isDigit(text[behind])) {
-                if (behind - place < MOST_DIGITS) {
-                    value = value * 10 + text[behind] - '0';
+            token = kindOf(text[place]);
+            behind++;
+            if (token == WORD || token == NUMBER) {
+                while (behind < length && kindOf(text[behind]) == token) {
+                    behind++;
                 }
-                behind++;
             }
-            token = behind - place > MOST_DIGITS ? NO_TOKEN : NUMBER;
+            if (token == NUMBER) {
+                takeValue();
+            }
         }
 
-        private int wordHere() {
-            if (spells("family")) {
-                return FAMILY;
-            } else if (spells("flour")) {
-                return FLOUR;
-            } else if (spells("bread")) {
-                return BREAD;
-            } else if (spells("wish")) {
-                return WISH;
-            } else if (spells("oven")) {
-                return OVEN;
-            } else if (spells("quarrel")) {
-                return QUARREL;
-            } else if (spells("keep")) {
-                return KEEP;
-            } else if (spells("fuel")) {
-                return FUEL;
+        private void takeValue() {
+            if (behind - place > MOST_DIGITS) {
+                token = NO_TOKEN;
+                return;
             }
-            return OTHER_WORD;
+            value = 0;
+            for (int i = place; i < behind; i++) {
+                value = value * 10 + text[i] - '0';
+            }
         }
 
-        private boolean spells(String word) {
-            if (behind - place != word.length()) {
+        private boolean isWord(String word) {
+            if (token != WORD || behind - place != word.length()) {
                 return false;
             }
             for (int i = 0; i < word.length(); i++) {
@@ -1202,16 +1169,15 @@ public final class NeverHalf {
             return true;
         }
 
-        private static boolean isBlank(int sign) {
-            return sign == 10 || sign == 32;
-        }
-
-        private static boolean isLetter(int sign) {
-            return sign >= 'a' && sign <= 'z';
-        }
-
-        private static boolean isDigit(int sign) {
-            return sign >= '0' && sign <= '9';
+        private static int kindOf(int sign) {
+            if (sign == 10 || sign == 32) {
+                return BLANK;
+            } else if (sign >= 'a' && sign <= 'z') {
+                return WORD;
+            } else if (sign >= '0' && sign <= '9') {
+                return NUMBER;
+            }
+            return sign == ';' ? SEMICOLON : NO_TOKEN;
         }
     }
 
@@ -1311,7 +1277,7 @@ public final class NeverHalf {
         private static int commonDivisor(int a, int b) {
             int greater = a;
             int lesser = b;
-            while (lesser > 0) {
+            for (int i = 0; i <= MOST_SIZE && lesser > 0; i++) {
                 int left = greater % lesser;
                 greater = lesser;
                 lesser = left;

@@ -21,6 +21,8 @@ final class EdgeAheadTest {
         marryAmongTen();
         marryAll();
         marryDebts();
+        marryWithOneFoe();
+        marryAndGoOn();
         CHECKS.finish();
     }
 
@@ -295,6 +297,43 @@ final class EdgeAheadTest {
         CHECKS.due("both one", -2, x.marry(0, 0));
         CHECKS.due("one of both", -2, x.marry(1, 0));
         CHECKS.due("fills", -3, x.fills(2));
+    }
+
+    /** Whoever is at odds with both is at odds with the one that they become. */
+    private static void marryWithOneFoe() {
+        NeverHalf x = Checks.told("family 1;family 1;family 1;family 1;quarrel 0 1;quarrel 2 1;quarrel 2 3;");
+        CHECKS.due("0 and 2", 3, x.marry(0, 2));
+        int[][] due = {{0, 1, 1}, {1, 0, 0}, {1, 0, 0}};
+        for (int f = 0; f < 3; f++) {
+            for (int g = 0; g < 3; g++) {
+                CHECKS.due("quarrel(" + f + ", " + g + ")", due[f][g], x.quarrel(f, g));
+            }
+        }
+        CHECKS.due("no more", 0, x.fallOut(1, 0));
+        CHECKS.due("1 and 0", 2, x.marry(1, 0));
+        CHECKS.due("the other one's", 1, x.quarrel(1, 0));
+    }
+
+    /** As many families as ahead of the marriages can come again, each by itself. */
+    private static void marryAndGoOn() {
+        NeverHalf x = ten();
+        x.image(0);
+        x.marry(0, 1);
+        x.marry(3, 5);
+        x.restore(0);
+        eats(x, 1, 2, 3, 4, 5, 6, 7, 8, 9, 10);
+        x.marry(2, 0);
+        x.marry(4, 1);
+        CHECKS.due("anew", 4, Checks.tell(x, "family 9;family 8;family 7;family 6;"));
+        eats(x, 9, 8, 7, 6);
+        x.marry(0, 1);
+        CHECKS.due("anew", 4, Checks.tell(x, "family 9;family 8;family 7;family 6;"));
+        for (int f = 0; f < 4; f++) {
+            x.wish(f, f + 1);
+        }
+        for (int f = 0; f < 4; f++) {
+            CHECKS.due("wish of " + f, f + 1, x.family(f, 3));
+        }
     }
 
     private static void marryDebts() {

@@ -28,6 +28,7 @@ final class EdgeFireTest {
         judgeVerdicts();
         judgeNumbers();
         judgeLongRow();
+        judgeWithoutFuel();
         performWhich();
         performAsFar();
         lastDay();
@@ -350,6 +351,14 @@ final class EdgeFireTest {
         verdict(ten, -1, 0, 10, Arrays.copyOf(fires, 10));
         fires[9] = 1024;
         verdict(ten, 9, 4, 9, fires);
+    }
+
+    /** A fire that costs nothing is a fire. */
+    private static void judgeWithoutFuel() {
+        verdict("fuel 0;" + TOLD, -1, 0, 13, 3);
+        verdict("fuel 0;" + TOLD, 1, 3, 5, 1024 + 1, 1024 + 1);
+        verdict("fuel 1;family 1 wish 1;family 1 wish 1;oven 2;oven 1;", -1, 0, 2, 3);
+        verdict("fuel 0;family 1 wish 1;family 1 wish 1;oven 1;", -1, 0, 2, 1, 2);
     }
 
     private static void performWhich() {

@@ -15,6 +15,9 @@ final class EdgeGroupTest {
         fillsLikeOvens();
         servedWhats();
         servedOfLikeOnes();
+        servedByFewestGroups();
+        wishesThatChange();
+        groupsThatAreNoMore();
         partedEight();
         partedWays();
         togetherWhich();
@@ -177,6 +180,69 @@ final class EdgeGroupTest {
         servedIs("family 1 wish 99;oven 60;", 0, 0, 0);
     }
 
+    /** 10 13 and 9 14 by 23 are as many as 10 9 2 30 by 51, in more groups. */
+    private static void servedByFewestGroups() {
+        String six = "family 1 wish 10;family 1 wish 13;family 1 wish 9;family 1 wish 14;family 1 wish 2;"
+                + "family 1 wish 30;";
+        servedIs(six + "oven 23;", 4, 2, 15);
+        servedIs(six + "oven 51;", 4, 1, 53);
+        servedIs(six + "oven 23;oven 51;", 4, 1, 53);
+        servedIs(six + "oven 51;oven 23;quarrel 4 5;", 4, 2, 15);
+        servedIs("family 1 wish 5;oven 5;", 1, 1, 1);
+        servedIs("family 1 wish 6;family 1 wish 5;oven 5;", 1, 1, 2);
+    }
+
+    /** Nothing is kept of what was found for other wishes. */
+    private static void wishesThatChange() {
+        NeverHalf x = Checks.told("family 1 wish 5;family 1 wish 3;family 1 wish 2;oven 10;oven 5;");
+        int[] wishes = {5, 0, 5, 1, 0, 5, 99, 5};
+        int[] served = {3, 2, 3, 2, 2, 3, 2, 3};
+        int[] groups = {1, 1, 1, 1, 1, 1, 1, 1};
+        int[] sets = {7, 6, 7, 6, 6, 7, 6, 7};
+        int[] parted = {2, 1, 2, 0, 1, 2, 0, 2};
+        int[] together = {4, 4, 4, 0, 4, 4, 0, 4};
+        int[] tens = {1, 0, 1, 0, 0, 1, 0, 1};
+        int[] fires = {2, 1, 2, 2, 1, 2, -1, 2};
+        for (int i = 0; i < wishes.length; i++) {
+            x.wish(0, wishes[i]);
+            CHECKS.due(i + " served(0)", served[i], x.served(0));
+            CHECKS.due(i + " served(1)", groups[i], x.served(1));
+            CHECKS.due(i + " served(2)", sets[i], x.served(2));
+            CHECKS.due(i + " parted()", parted[i], x.parted());
+            CHECKS.due(i + " together(1)", together[i], x.together(1));
+            CHECKS.due(i + " group(0, -1)", tens[i], x.group(0, -1));
+            CHECKS.due(i + " stones(1, 0)", fires[i], x.stones(1, 0));
+        }
+        for (int f = 0; f < 3; f++) {
+            x.wish(f, 0);
+        }
+        CHECKS.due("nobody is served", 0, x.served(0));
+        CHECKS.due("no group", 0, x.served(1));
+        CHECKS.due("nobody", 0, x.served(2));
+        CHECKS.due("one way", 1, x.parted());
+        CHECKS.due("no fire", 0, x.stones(0, 0));
+    }
+
+    private static void groupsThatAreNoMore() {
+        NeverHalf x = Checks.told("family 1 wish 2;family 1 wish 2;family 1 wish 2;oven 6;oven 2;");
+        CHECKS.due("each alone", 3, x.group(1, -1));
+        x.wish(1, 0);
+        x.wish(2, 4);
+        CHECKS.due("0 and 2", 1, x.parted());
+        CHECKS.due("always", 1, x.together(2));
+        CHECKS.due("always", 4, x.together(0));
+        CHECKS.due("two are served", 2, x.served(0));
+        CHECKS.due("by one group", 1, x.served(1));
+        NeverHalf all = Checks.told("family 1 wish 2;family 1 wish 2;family 1 wish 2;oven 6;");
+        int[] wishes = {2, 1, 2, 3, 0, 2};
+        int[] served = {3, 0, 3, 0, 0, 3};
+        for (int i = 0; i < wishes.length; i++) {
+            all.wish(2, wishes[i]);
+            CHECKS.due("served " + i, served[i], all.served(0));
+            CHECKS.due("parted " + i, served[i] / 3, all.parted());
+        }
+    }
+
     private static void partedEight() {
         String line = "family 1 wish 1;";
         told(line.repeat(8) + "oven 2;").asks(105, "parted");
@@ -326,6 +392,11 @@ final class EdgeGroupTest {
         told("family 1 wish 5;family 1 wish 5;oven 10;oven 5;").asks(1, "leaves", 1, 1);
         told("family 1 wish 5;family 1 wish 5;oven 10;oven 5;quarrel 0 1;").asks(0, "leaves", 1, 1);
         told("family 1 wish 5;family 1 wish 5;oven 10;oven 10;").asks(0, "leaves", 0, 3);
+        told("family 1 wish 5;family 1 wish 5;family 1 wish 7;oven 5;oven 10;oven 12;").asks(1, "leaves", 0, 1);
+        told("family 1 wish 5;family 1 wish 5;family 1 wish 5;oven 5;oven 10;").asks(1, "leaves", 0, 1);
+        told("family 1 wish 5;family 1 wish 5;family 1 wish 5;oven 5;oven 10;oven 15;").asks(3, "leaves", 1, 3);
+        told("family 1 wish 5;family 1 wish 5;family 1 wish 7;family 1 wish 10;oven 10;oven 12;oven 15;quarrel 1 2;"
+                + "quarrel 1 3;").asks(1, "leaves", 0, 3);
     }
 
     private static void stableWhich() {

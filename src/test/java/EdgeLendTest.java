@@ -18,6 +18,7 @@ final class EdgeLendTest {
         clearNone();
         clearedOfTen();
         clearLeastDebts();
+        clearManyRings();
         paymentsBounds();
         CHECKS.finish();
     }
@@ -228,6 +229,35 @@ final class EdgeLendTest {
         CHECKS.due("1 owes 9", 0, x.owed(1, 9));
         CHECKS.due("9 owes 0", 1, x.owed(9, 0));
         CHECKS.due("debts of all", 22, x.count(13));
+    }
+
+    /** Debts of nine among one another, by rings of three, so that nothing is left. */
+    private static void clearManyRings() {
+        int[][] owes = new int[9][9];
+        int[][] steps = {{1, 4}, {4, 1}, {4, 4}, {2, 3}, {3, 2}, {2, 4}, {4, 2}, {3, 4}, {4, 3}, {3, 3}};
+        for (int f = 0; f < 9; f++) {
+            for (int i = 0; i < steps.length; i++) {
+                int g = (f + steps[i][0]) % 9;
+                int h = (g + steps[i][1]) % 9;
+                int debt = (f + i) % 11 + 1;
+                owes[f][g] += debt;
+                owes[g][h] += debt;
+                owes[h][f] += debt;
+            }
+        }
+        NeverHalf x = Checks.told("family 1 flour 500;".repeat(9));
+        for (int f = 0; f < 9; f++) {
+            for (int g = 0; g < 9; g++) {
+                if (owes[f][g] > 0) {
+                    CHECKS.due("lent", owes[f][g], x.lend(g, f, owes[f][g]));
+                }
+            }
+        }
+        CHECKS.due("debts of all", 1641, x.count(13));
+        CHECKS.due("nobody has to pay", 0, x.payments());
+        CHECKS.due("rings", 28, x.clear());
+        CHECKS.due("nothing is left", 0, x.count(13));
+        CHECKS.due("flour stays", 4500, x.count(5));
     }
 
     private static void paymentsBounds() {

@@ -15,6 +15,7 @@ final class EdgeRowTest {
         imageWhich();
         imagesApart();
         imageOfNoVillage();
+        imageOfAll();
         counts();
         lastCalls();
         CHECKS.finish();
@@ -257,6 +258,42 @@ final class EdgeRowTest {
             CHECKS.due("no village, count(" + what + ")", due[what], x.count(what));
         }
         CHECKS.due("no family", -2, x.family(0, 0));
+    }
+
+    /** Everything that can be seen of the village comes back, into an object that stands quite otherwise. */
+    private static void imageOfAll() {
+        NeverHalf x = Twins.richVillage();
+        CHECKS.due("image(1)", 0, x.image(1));
+        CHECKS.due("the tape is empty then", 0, x.village(0));
+        CHECKS.due("anew", 12, Checks.tell(x, "keep 1;fuel 3;" + "family 30 flour 7 bread 5 wish 8;".repeat(9)
+                + "oven 8;"));
+        x.day();
+        x.lend(0, 1, 2);
+        x.fallOut(5, 6);
+        x.fireWishes(0, 4);
+        CHECKS.due("restore(1)", 0, x.restore(1));
+        int[] due = {4, 3, 1, 4, 37, 248, 40, 21, 6, 7, 20, 0, 10, 20};
+        for (int what = 0; what < due.length; what++) {
+            CHECKS.due("restored count(" + what + ")", due[what], x.count(what));
+        }
+        int[][] families = {{5, 49, 10, 5, 15, 0, 0, 6, 0, 6, 2, 2}, {7, 67, 30, 7, 21, 0, 0, -4, 0, 16, 8, 6},
+            {2, 82, 0, 9, 0, 0, 7, -2, 0, 0, 0, 0}, {6, 50, 0, 0, 0, 6, 0, 0, 0, 0, 0, 0}};
+        for (int f = 0; f < 4; f++) {
+            for (int i = 0; i < 12; i++) {
+                int what = i < 8 ? i : i + 2;
+                CHECKS.due("restored family(" + f + ", " + what + ")", families[f][i], x.family(f, what));
+            }
+            for (int g = 0; g < 4; g++) {
+                CHECKS.due("restored quarrel", f + g == 2 && f != g ? 1 : 0, x.quarrel(f, g));
+            }
+        }
+        CHECKS.due("0 owes 2", 4, x.owed(0, 2));
+        CHECKS.due("1 owes 0", 10, x.owed(1, 0));
+        CHECKS.due("2 owes 1", 6, x.owed(2, 1));
+        int[] sizes = {12, 9, 16};
+        for (int o = 0; o < 3; o++) {
+            CHECKS.due("oven " + o, sizes[o], x.oven(o));
+        }
     }
 
     private static void counts() {

@@ -22,14 +22,20 @@ final class EdgeTextTest {
         everyByteBetween();
         everyByteInAWord();
         words();
+        wordsWithAnotherLetter();
+        wordsInPlaceOfNumbers();
+        wordsThatCanNotStandThere();
         cutShort();
         endIsTheLength();
+        nothingOfTheTextAhead();
         firstAlongTheText();
         leastKindOfOneToken();
         feedBounds();
         feedBytes();
         villageBounds();
         villageAnew();
+        familiesAnew();
+        withoutOvensAnew();
         faultsOfTheLatest();
         faultStays();
         CHECKS.finish();
@@ -152,7 +158,12 @@ final class EdgeTextTest {
                 CHECKS.due("quarrel " + f + " " + g, f == g ? 0 : 1, x.quarrel(f, g));
             }
         }
-        right("family 1;family 1;quarrel 0 1;quarrel 0 1;quarrel 1 0;", 5);
+        NeverHalf twice = right("family 1;family 1;quarrel 0 1;quarrel 0 1;", 4);
+        CHECKS.due("twice is no other thing", 1, twice.quarrel(0, 1));
+        CHECKS.due("the other way", 1, twice.quarrel(1, 0));
+        NeverHalf both = right("family 1;family 1;quarrel 0 1;quarrel 1 0;", 4);
+        CHECKS.due("each way", 1, both.quarrel(0, 1));
+        CHECKS.due("each way", 1, both.quarrel(1, 0));
     }
 
     private static void unlessTold() {
@@ -310,6 +321,54 @@ final class EdgeTextTest {
         }
     }
 
+    private static void wordsWithAnotherLetter() {
+        String[] lines = {"family 1;", "family 1 flour 1;", "family 1 bread 1;", "family 1 wish 1;", "oven 1;",
+            "family 1;family 1;quarrel 0 1;", "keep 1;", "fuel 1;"};
+        for (String line : lines) {
+            int end = line.lastIndexOf(line.contains("quarrel") ? " 0" : " ");
+            int at = Math.max(line.lastIndexOf(' ', end - 1), line.lastIndexOf(';', end - 1)) + 1;
+            for (int i = at; i < end; i++) {
+                wrong(line.substring(0, i) + "x" + line.substring(i + 1), 2, at);
+                wrong(line.substring(0, i) + line.substring(i + 1), 2, at);
+            }
+        }
+    }
+
+    private static void wordsInPlaceOfNumbers() {
+        String[] ahead = {"family ", "family 1 flour ", "family 1 bread ", "family 1 wish ", "oven ", "keep ", "fuel ",
+            "family 1;family 1;quarrel ", "family 1;family 1;quarrel 0 "};
+        String[] words = {"bake", "family", "flour", "bread", "wish", "oven", "quarrel", "keep", "fuel", ";"};
+        for (String text : ahead) {
+            for (String word : words) {
+                wrong(text + word + ";", 2, text.length());
+                wrong(text + word + " 1;", 2, text.length());
+            }
+        }
+    }
+
+    private static void wordsThatCanNotStandThere() {
+        String[] lines = {"", "family 1;", "oven 1;"};
+        String[] begun = {"family 1 ", "family 1 flour 1 ", "family 1 bread 1 ", "family 1 wish 1 ", "oven 1 ", "fuel 1 "};
+        String[] none = {"bake", "flour", "bread", "wish", "1", "999", ";"};
+        String[] first = {"family", "oven", "quarrel", "keep", "fuel", "bake"};
+        for (String line : lines) {
+            for (String word : none) {
+                wrong(line + word + " 1;", 2, line.length());
+            }
+        }
+        for (String text : begun) {
+            for (String word : first) {
+                wrong(text + word + " 1;", 2, text.length());
+            }
+        }
+        String[] order = {"family 1 bread 1 flour 1;", "family 1 wish 1 flour 1;", "family 1 wish 1 bread 1;",
+            "family 1 flour 1 flour 1;", "family 1 bread 1 bread 1;", "family 1 wish 1 wish 1;"};
+        int[] places = {17, 16, 16, 17, 17, 16};
+        for (int i = 0; i < order.length; i++) {
+            wrong(order[i], 2, places[i]);
+        }
+    }
+
     /** Each text that ends ahead of its sign ; has its fault at its end. */
     private static void cutShort() {
         String[] lines = {"family 1 flour 2 bread 3 4 wish 5", "oven 6", "quarrel 0 1", "keep 2", "fuel 3"};
@@ -344,6 +403,22 @@ final class EdgeTextTest {
         Checks.feed(x, "oven 15;            ".getBytes());
         CHECKS.due("a number that the length cuts", -32, x.village(6));
         CHECKS.due("its place", 6, x.fault(1));
+    }
+
+    /** What a longer text ahead had behind the end of this one is not read. */
+    private static void nothingOfTheTextAhead() {
+        String[] ahead = {"oven 15;", "fuel 555;", "fuelling;", "oven 5;oven 6;", "fuel 5          ;"};
+        String[] texts = {"oven 1", "fuel 55", "fuel", "oven 5", "fuel 5"};
+        for (int i = 0; i < ahead.length; i++) {
+            NeverHalf x = new NeverHalf();
+            Checks.tell(x, ahead[i]);
+            CHECKS.due(texts[i], -32, Checks.tell(x, texts[i]));
+            CHECKS.due(texts[i] + " its place", texts[i].length(), x.fault(1));
+            NeverHalf y = new NeverHalf();
+            Checks.feed(y, ahead[i].getBytes());
+            CHECKS.due(texts[i] + " of a longer tape", -32, y.village(texts[i].length()));
+            CHECKS.due(texts[i] + " its place", texts[i].length(), y.fault(1));
+        }
     }
 
     private static void firstAlongTheText() {
@@ -457,6 +532,67 @@ final class EdgeTextTest {
         CHECKS.due("the tape is empty", 0, y.count(11));
         CHECKS.due("no families", 0, y.count(0));
         CHECKS.due("day", 0, y.count(2));
+    }
+
+    /** Families have nothing of those ahead, whatever was asked of them. */
+    private static void familiesAnew() {
+        NeverHalf x = Checks.told("keep 4;fuel 37;family 9 flour 60 bread 1 2 3 90 wish 5;family 9 bread 0 0 0 50 wish 7;"
+                + "oven 12;quarrel 0 1;");
+        x.lend(0, 1, 10);
+        x.fallOut(0, 1);
+        x.fireWishes(0, 3);
+        x.fallOut(0, 1);
+        for (int i = 0; i < 9; i++) {
+            x.day();
+        }
+        x.wish(0, 5);
+        x.wish(1, 7);
+        x.numbers(0, 0, 0);
+        CHECKS.holds("hunger", x.family(0, 5) > 0 && x.family(1, 5) > 0);
+        CHECKS.holds("stale", x.family(0, 6) > 0 && x.family(1, 6) > 0);
+        CHECKS.due("judged", -1, x.judge(0, 0));
+        CHECKS.due("a fault", -32, Checks.tell(x, "family 8 wish 8;family 8 wish 8"));
+        CHECKS.due("judged", -1, x.judge(0, 0));
+        CHECKS.due("lasts", 0, x.lasts(1));
+        CHECKS.due("anew", 2, Checks.tell(x, "family 9;family 9;"));
+        int[] due = {9, 50, 0, 0, 0, 0, 0, 0};
+        for (int f = 0; f < 2; f++) {
+            for (int what = 0; what < due.length; what++) {
+                CHECKS.due("anew family(" + f + ", " + what + ")", due[what], x.family(f, what));
+            }
+            for (int age = 0; age < 3; age++) {
+                CHECKS.due("no bread", 0, x.family(f, 10 + age));
+            }
+            CHECKS.due("no debt", 0, x.owed(f, 1 - f));
+            CHECKS.due("no quarrel", 0, x.quarrel(f, 1 - f));
+        }
+        CHECKS.due("day", 0, x.count(2));
+        CHECKS.due("keep", 3, x.count(3));
+        CHECKS.due("fuel", 20, x.count(4));
+        CHECKS.due("lines", 2, x.count(12));
+    }
+
+    private static void withoutOvensAnew() {
+        NeverHalf x = Checks.told("oven 5;oven 7;oven 9;");
+        CHECKS.due("with ovens", 1, x.canBake(12));
+        CHECKS.due("anew", 1, Checks.tell(x, "family 1 wish 5;"));
+        CHECKS.due("no oven", -2, x.oven(0));
+        CHECKS.due("canBake(12)", 0, x.canBake(12));
+        CHECKS.due("canBake(0)", 1, x.canBake(0));
+        CHECKS.due("fires(5)", -1, x.fires(5));
+        CHECKS.due("ways(5)", 0, x.ways(5));
+        CHECKS.due("gap()", -4, x.gap());
+        CHECKS.due("upTo(5)", -1, x.upTo(5));
+        CHECKS.due("group(0, 0)", -2, x.group(0, 0));
+        CHECKS.due("fills(1)", 0, x.fills(1));
+        CHECKS.due("served(0)", 0, x.served(0));
+        CHECKS.due("parted()", 0, x.parted());
+        CHECKS.due("better(0)", -1, x.better(0));
+        CHECKS.due("ahead(1, 0)", -5, x.ahead(1, 0));
+        CHECKS.due("one oven anew", 1, Checks.tell(x, "oven 4;"));
+        CHECKS.due("ways(8)", 1, x.ways(8));
+        CHECKS.due("canBake(5)", 0, x.canBake(5));
+        CHECKS.due("the others are gone", -2, x.oven(1));
     }
 
     private static void faultsOfTheLatest() {

@@ -64,8 +64,9 @@ final class ModelTest {
                 tellRow();
                 continue;
             }
-            call(m, arguments(m));
-            if (m.getName().equals("restore") || m.getName().equals("marry") || i == CALLS - 1) {
+            long answer = call(m, arguments(m));
+            boolean refused = answer < NeverHalf.NONE && random.nextInt(4) == 0;
+            if (refused || m.getName().equals("restore") || m.getName().equals("marry") || i == CALLS - 1) {
                 lookAround();
             }
         }
@@ -87,7 +88,7 @@ final class ModelTest {
         }
     }
 
-    private void call(Method m, Object[] arguments) throws ReflectiveOperationException {
+    private long call(Method m, Object[] arguments) throws ReflectiveOperationException {
         log.add(m.getName() + Arrays.toString(arguments));
         long got = ((Number) m.invoke(program, arguments)).longValue();
         Method twin = Model.class.getMethod(m.getName(), m.getParameterTypes());
@@ -97,6 +98,7 @@ final class ModelTest {
             System.out.println(String.join("\n", log));
             System.out.println("answered " + got + ", the model says " + want);
         }
+        return got;
     }
 
     private void call(String name, Object... arguments) throws ReflectiveOperationException {
@@ -121,8 +123,9 @@ final class ModelTest {
     }
 
     private Integer anInt(String name, int place) {
-        if (random.nextInt(60) == 0) {
-            int[] edges = {Integer.MIN_VALUE, Integer.MAX_VALUE, -1, -2, 1 << 10, 1900, 1901, 2000, 2001, 999, 1000, 41};
+        if (random.nextInt(40) == 0) {
+            int[] edges = {Integer.MIN_VALUE, Integer.MAX_VALUE, -1, -2, 1023, 1 << 10, 1900, 1901, 2000, 2001, 999,
+                1000, 99, 100, 40, 41, 30, 31, 16, 17, families, 1 << families};
             return edges[random.nextInt(edges.length)];
         }
         switch (name) {
