@@ -41,10 +41,6 @@ public final class NeverHalf {
     private static final int IMAGES = 2;
     private static final int FAR = 1 << 20;
 
-    private final byte[] tape;
-    private int tapeLength;
-    private int faultKind;
-    private int faultPlace;
     private final Village now;
     /** What must not touch the village yet is tried here first. */
     private final Village spare;
@@ -59,10 +55,6 @@ public final class NeverHalf {
     private final Outlook outlook;
 
     public NeverHalf() {
-        tape = new byte[TAPE];
-        tapeLength = 0;
-        faultKind = 0;
-        faultPlace = NONE;
         now = new Village();
         spare = new Village();
         images = new Village[IMAGES];
@@ -74,7 +66,7 @@ public final class NeverHalf {
         for (int i = 0; i < ROWS; i++) {
             rows[i] = new Row();
         }
-        reader = new Reader(tape);
+        reader = new Reader();
         bakery = new Bakery();
         sums = new Sums();
         groups = new Groups();
@@ -85,34 +77,24 @@ public final class NeverHalf {
     // ---- the village
 
     public int feed(int a, int b, int c, int d, int e) {
-        if (tapeLength + FED > TAPE) {
+        if (reader.fed + FED > TAPE) {
             return NOT_NOW;
         }
-        putBytes(a);
-        putBytes(b);
-        putBytes(c);
-        putBytes(d);
-        putBytes(e);
-        return tapeLength;
-    }
-
-    private void putBytes(int four) {
-        for (int shift = 24; shift >= 0 && tapeLength < TAPE; shift -= 8) {
-            tape[tapeLength] = (byte) (four >> shift);
-            tapeLength++;
-        }
+        reader.putBytes(a);
+        reader.putBytes(b);
+        reader.putBytes(c);
+        reader.putBytes(d);
+        reader.putBytes(e);
+        return reader.fed;
     }
 
     public int village(int n) {
-        if (n < 0 || n > tapeLength) {
+        if (n < 0 || n > reader.fed) {
             return BAD_NUMBER;
         }
-        tapeLength = 0;
         reader.read(n, spare);
-        faultKind = reader.faultKind;
-        faultPlace = reader.faultPlace;
-        if (faultKind != 0) {
-            return BAD_TEXT - faultKind;
+        if (reader.faultKind != 0) {
+            return BAD_TEXT - reader.faultKind;
         }
         now.become(spare);
         return now.lines;
@@ -121,9 +103,9 @@ public final class NeverHalf {
     public int fault(int what) {
         switch (what) {
             case 0:
-                return faultKind;
+                return reader.faultKind;
             case 1:
-                return faultPlace;
+                return reader.faultPlace;
             default:
                 return NONE;
         }
@@ -612,7 +594,7 @@ public final class NeverHalf {
             case 4:
                 return now.fuel;
             case 11:
-                return tapeLength;
+                return reader.fed;
             case 12:
                 return now.lines;
             default:
@@ -966,7 +948,7 @@ public final class NeverHalf {
         }
     }
 
-    /** Reads a text into a village, up to its first fault. */
+    /** Holds the tape, and reads its text into a village, up to the first fault. */
     private static final class Reader {
         private static final int END = 0;
         private static final int BLANK = 1;
@@ -982,21 +964,27 @@ public final class NeverHalf {
 
         private static final int MOST_DIGITS = 3;
 
+        int fed;
         int faultKind;
-        int faultPlace;
-        private final byte[] text;
+        int faultPlace = NONE;
+        private final byte[] text = new byte[TAPE];
         private int length;
         private int token;
         private int value;
         private int place;
         private int behind;
 
-        Reader(byte[] tape) {
-            text = tape;
+        void putBytes(int four) {
+            for (int shift = 24; shift >= 0 && fed < TAPE; shift -= 8) {
+                text[fed] = (byte) (four >> shift);
+                fed++;
+            }
         }
 
+        /** The tape is empty then, whatever the text is. */
         void read(int n, Village into) {
-            length = Math.max(0, Math.min(n, text.length));
+            length = Math.max(0, Math.min(n, fed));
+            fed = 0;
             faultKind = 0;
             faultPlace = NONE;
             behind = 0;

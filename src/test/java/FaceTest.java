@@ -73,6 +73,9 @@ final class FaceTest {
         for (Class<?> c : NeverHalf.class.getDeclaredClasses()) {
             CHECKS.holds(c.getName() + " is static", Modifier.isStatic(c.getModifiers()));
             CHECKS.holds(c.getName() + " is not public", !Modifier.isPublic(c.getModifiers()));
+            for (Constructor<?> made : c.getDeclaredConstructors()) {
+                CHECKS.due(c.getName() + " is handed nothing of another object", 0, made.getParameterCount());
+            }
         }
     }
 
@@ -104,7 +107,7 @@ final class FaceTest {
         CHECKS.holds("signs 1 to 127", text.chars().allMatch(c -> c == 10 || c >= 32 && c < 127));
         String code = text.replaceAll("(?s)/\\*.*?\\*/", "").replaceAll("//[^\n]*", "").replaceAll("\"[^\"\n]*\"", "\"\"");
         String[] words = {"throw", "throws", "try", "catch", "finally", "synchronized", "assert", "package", "Exact",
-            "double", "float", "volatile", "native", "protected", "var", "yield", "goto", "System.out", "Object",
+            "double", "float", "this", "volatile", "native", "protected", "var", "yield", "goto", "System.out", "Object",
             "equals", "hashCode", "toString"};
         for (String word : words) {
             CHECKS.holds("no " + word, !Pattern.compile("\\b" + Pattern.quote(word) + "\\b").matcher(code).find());

@@ -13,7 +13,6 @@ final class VillageTest {
         ovensAndQuarrels();
         wishes();
         flour();
-        readme();
         CHECKS.finish();
     }
 
@@ -234,14 +233,5 @@ final class VillageTest {
         CHECKS.due("mill(1, -1)", -2, x.mill(1, -1));
         CHECKS.due("mill(0, 999)", 999, x.mill(0, 999));
         CHECKS.due("flour", 999, x.family(0, 1));
-    }
-
-    private static void readme() {
-        NeverHalf x = new NeverHalf();
-        x.feed(0x66616d69, 0x6c792035, 0x20776973, 0x6820353b, 0x6f76656e);
-        x.feed(0x20353b20, 0x20202020, 0x20202020, 0x20202020, 0x20202020);
-        CHECKS.due("README: village(23)", 2, x.village(23));
-        CHECKS.due("README: fireWishes(0, 1)", 20, x.fireWishes(0, 1));
-        CHECKS.due("README: day()", 0, x.day());
     }
 }
